@@ -47,6 +47,9 @@ final class SheetsTest {
         c.equal("sheets()", x.sheets(), 40);
         c.equal("stateOf(39)", x.stateOf(39), CountSheets.CLOSED);
         c.equal("likely(39, 4)", x.likely(39, 4), NONE);
+        c.equal("book(11, 4)", x.book(11, 4), 0);
+        c.equal("exact(2)", x.exact(2), NONE);
+        c.equal("suggested()", x.suggested(), 0);
         c.throwing("stateOf(40)", Checks.INDEX, () -> x.stateOf(40));
         c.throwing("count(40, ..)", Checks.INDEX, () -> x.count(40, 0, 0, 0));
     }
