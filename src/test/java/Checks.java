@@ -1,5 +1,7 @@
 /** Counts what a test checks, prints what is wrong, and ends the test with exit code 1 if something was. */
 final class Checks {
+    private static final int MOST_PRINTED = 40;
+
     static final Class<? extends RuntimeException> INDEX = IndexOutOfBoundsException.class;
     static final Class<? extends RuntimeException> ARGUMENT = IllegalArgumentException.class;
     static final Class<? extends RuntimeException> STATE = IllegalStateException.class;
@@ -23,19 +25,30 @@ final class Checks {
         checked++;
         if (!due.equals(got)) {
             wrong++;
-            System.out.println(test + ", promise " + promise + ": " + what + " answered " + got + ", due is " + due);
+            if (wrong <= MOST_PRINTED) {
+                System.out.println(test + ", promise " + promise + ": " + what + " answered " + got + ", due is " + due);
+            }
         }
     }
 
     /** The call throws exactly this exception, not one of a class below it. */
     void throwing(String what, Class<? extends RuntimeException> due, Runnable call) {
-        Object got = "nothing thrown";
+        Class<?> got = null;
         try {
             call.run();
         } catch (RuntimeException e) {
             got = e.getClass();
         }
-        equal(what, got, due);
+        equal(what, nameOf(got), nameOf(due));
+    }
+
+    private static String nameOf(Class<?> thrown) {
+        return thrown == null ? "nothing thrown" : thrown.getName();
+    }
+
+    /** The call answers, whatever it is. */
+    void answering(String what, Runnable call) {
+        throwing(what, null, call);
     }
 
     void end() {

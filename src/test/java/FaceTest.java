@@ -60,7 +60,7 @@ final class FaceTest {
         Set<String> open = new TreeSet<>();
         for (Field field : type.getDeclaredFields()) {
             int modifiers = field.getModifiers();
-            if (!Modifier.isPrivate(modifiers)) {
+            if (!Modifier.isPrivate(modifiers) && !field.isSynthetic()) {
                 open.add(Modifier.toString(modifiers) + " " + field.getType() + " " + field.getName());
             }
             c.equal(field.getName() + " is final or of the object", Modifier.isStatic(modifiers) && !Modifier.isFinal(modifiers), false);
@@ -78,18 +78,16 @@ final class FaceTest {
         Set<String> open = new TreeSet<>();
         Set<String> publicNames = new TreeSet<>();
         for (Method method : type.getDeclaredMethods()) {
-            if (!Modifier.isPrivate(method.getModifiers())) {
+            if (!Modifier.isPrivate(method.getModifiers()) && !method.isSynthetic()) {
                 c.equal("modifiers of " + method.getName(), Modifier.toString(method.getModifiers()), "public");
                 open.add(signature(method));
                 publicNames.add(method.getName());
             }
         }
         c.equal("methods", open, DUE);
-        for (Class<?> each : withNested(type)) {
-            for (Method method : each.getDeclaredMethods()) {
-                boolean twice = Modifier.isPrivate(method.getModifiers()) && publicNames.contains(method.getName());
-                c.equal("private method " + method.getName() + " bears a public name", twice, false);
-            }
+        for (Method method : type.getDeclaredMethods()) {
+            boolean twice = Modifier.isPrivate(method.getModifiers()) && publicNames.contains(method.getName());
+            c.equal("private method " + method.getName() + " bears a public name", twice, false);
         }
     }
 
@@ -99,13 +97,6 @@ final class FaceTest {
             c.equal(nested + " is static", Modifier.isStatic(modifiers), true);
             c.equal(nested + " is open", Modifier.isPublic(modifiers) || Modifier.isProtected(modifiers), false);
         }
-    }
-
-    private static Class<?>[] withNested(Class<?> type) {
-        Class<?>[] nested = type.getDeclaredClasses();
-        Class<?>[] all = Arrays.copyOf(nested, nested.length + 1);
-        all[nested.length] = type;
-        return all;
     }
 
     private static String signature(Method method) {

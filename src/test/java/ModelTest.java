@@ -95,10 +95,10 @@ final class ModelTest {
         } else if (dice < 17) {
             int minutes = random.nextInt(10) == 0 ? pick(1, 1000) : pick(1, 3);
             same(r + "pass", () -> x.pass(minutes), model.pass(minutes));
-            now = x.now();
+            now = Integer.parseInt(model.now());
         } else if (dice < 21) {
             same(r + "open", () -> x.open(p), model.open(p));
-            sheets = x.sheets();
+            sheets = Integer.parseInt(model.sheets());
         } else if (dice < 41) {
             int much = quantity();
             same(r + "count", () -> x.count(s, n, a, much), model.count(s, n, a, much));
@@ -119,7 +119,7 @@ final class ModelTest {
 
     private void ask(String r, int dice) {
         int p = place(), a = article(), s = sheet(), z = pick(0, 2), m = pick(0, now);
-        switch ((dice - 58) % 14) {
+        switch ((dice - 58) % 15) {
             case 0 -> same(r + "now", () -> x.now(), model.now());
             case 1 -> same(r + "moves", () -> x.moves(), model.moves());
             case 2 -> same(r + "book", () -> x.book(p, a), model.book(p, a));
@@ -132,9 +132,8 @@ final class ModelTest {
             case 9 -> same(r + "counts", () -> x.counts(s, a), model.counts(s, a));
             case 10 -> same(r + "agreed", () -> x.agreed(s, a), model.agreed(s, a));
             case 11 -> same(r + "gap", () -> x.gap(s, a), model.gap(s, a));
-            case 12 -> same(r + "isSigned and exact", () -> x.isSigned(s, a) + "/" + answer(() -> x.exact(z)),
-                    model.isSigned(s, a).equals("IndexOutOfBoundsException") ? "IndexOutOfBoundsException"
-                            : model.isSigned(s, a) + "/" + model.exact(z));
+            case 12 -> same(r + "isSigned", () -> x.isSigned(s, a), model.isSigned(s, a));
+            case 13 -> same(r + "exact", () -> x.exact(z), model.exact(z));
             default -> same(r + "likely", () -> x.likely(s, a), model.likely(s, a));
         }
     }
